@@ -25,14 +25,15 @@ public final class RoomsByThree {
     private static final int[] AS_NUMBERED = {0, 1, 2, 3, 4, 5, 6, 7};
 
     private final Page page = new Page();
-    private House house = new House();
-    private House spare = new House();
+    private final House house = new House();
+    /** Where the page is tried, so that a refusal changes nothing. */
+    private final House spare = new House();
     private final Rule[] rules = new Rule[MOST_RULES];
     private int ruleCount;
-    private final Crew crew = new Crew();
-    private final Desk desk = new Desk();
-    private final Orders orders = new Orders();
-    private final int[] wayValue = new int[MOST_WAYS];
+    private final Crew crew = new Crew(house);
+    private final Desk desk = new Desk(house);
+    private final Orders orders = new Orders(house, crew, desk);
+    private final int[] waitBy = new int[MOST_WAYS];
     private final int[] imageLate = new int[MOST_ROOMS];
     private int imageLift;
     private boolean imageKept;
@@ -77,9 +78,7 @@ public final class RoomsByThree {
         if (!page.readHouse(spare)) {
             return STATE;
         }
-        House old = house;
-        house = spare;
-        spare = old;
+        page.readHouse(house);
         page.length = 0;
         imageKept = false;
         hireAll();
@@ -186,7 +185,8 @@ public final class RoomsByThree {
         if (!isWay(way) || !isBelow(what, 3)) {
             return OUTSIDE;
         }
-        planDay(rules[rule], way);
+        Rule by = rules[rule];
+        crew.plan(by, orders.orderFor(by.kind, by.n), way);
         return what == 0 ? crew.by[room] : what == 1 ? crew.begun[room] : crew.ready[room];
     }
 
@@ -203,11 +203,12 @@ public final class RoomsByThree {
         if (!isWay(way) || !isGiving(giving) || !isBelow(what, 3)) {
             return OUTSIDE;
         }
-        dayCost(rules[rule], way, giving);
+        Rule by = rules[rule];
+        dayCost(by, orders.orderFor(by.kind, by.n), way, giving);
         if (what == 0) {
             return desk.roomOf[guest];
         }
-        int waits = desk.waitOf(house, crew.ready, guest);
+        int waits = desk.waitOf(crew.ready, guest);
         return what == 1 ? waits : waits * house.guests[guest][WEIGHT];
     }
 
@@ -216,7 +217,11 @@ public final class RoomsByThree {
         if (refusal != 0) {
             return refusal;
         }
-        return isWay(way) ? dayCost(rules[rule], way, giving) : OUTSIDE;
+        if (!isWay(way)) {
+            return OUTSIDE;
+        }
+        Rule by = rules[rule];
+        return dayCost(by, orders.orderFor(by.kind, by.n), way, giving);
     }
 
     public int mean(int rule, int giving, int part) {
@@ -235,10 +240,12 @@ public final class RoomsByThree {
         if (!isBelow(what, 2)) {
             return OUTSIDE;
         }
+        Rule by = rules[rule];
+        int[] order = orders.orderFor(by.kind, by.n);
         int worstWay = 0;
         int most = NONE;
         for (int way = 0; way < house.wayCount(); way++) {
-            int costs = dayCost(rules[rule], way, giving);
+            int costs = dayCost(by, order, way, giving);
             if (costs > most) {
                 most = costs;
                 worstWay = way;
@@ -294,7 +301,11 @@ public final class RoomsByThree {
                 }
             }
         }
-        return what == 0 ? way : what == 1 ? dayCost(rules[rule], way, giving) : (int) next;
+        if (what != 1) {
+            return what == 0 ? way : (int) next;
+        }
+        Rule by = rules[rule];
+        return dayCost(by, orders.orderFor(by.kind, by.n), way, giving);
     }
 
     // ---- what else could be
@@ -310,7 +321,7 @@ public final class RoomsByThree {
             return STATE;
         }
         asked++;
-        return i < house.roomCount ? orders.leastBy(house, crew, desk, giving)[i] : NONE;
+        return i < house.roomCount ? orders.orderFor(BEST, giving)[i] : NONE;
     }
 
     public int call(int giving, int room, int part) {
@@ -324,8 +335,8 @@ public final class RoomsByThree {
             return STATE;
         }
         asked++;
-        orders.weighAll(house, crew, desk, giving);
-        return termOf(orders.worthOf(house, house.bitOf(room)), part);
+        orders.weighAll(giving);
+        return termOf(orders.worthOf(house.bitOf(room)), part);
     }
 
     public int called(int giving) {
@@ -344,9 +355,9 @@ public final class RoomsByThree {
         for (int bit = 0; bit < house.chanceCount; bit++) {
             if (house.isByChance(house.chanceRoom[bit])) {
                 if (room == NONE) {
-                    orders.weighAll(house, crew, desk, giving);
+                    orders.weighAll(giving);
                 }
-                int worth = orders.worthOf(house, bit);
+                int worth = orders.worthOf(bit);
                 if (worth > most) {
                     most = worth;
                     room = house.chanceRoom[bit];
@@ -369,7 +380,7 @@ public final class RoomsByThree {
         int most = NONE;
         for (int w = 0; w < house.womanCount; w++) {
             hireAll();
-            crew.here[w] = false;
+            crew.sendAway(w);
             int without = costOverWays(rules[rule], giving);
             if (without > most) {
                 most = without;
@@ -413,11 +424,11 @@ public final class RoomsByThree {
             return STATE;
         }
         asked++;
-        int least = Integer.MAX_VALUE;
+        int least = 0;
         int number = NONE;
         for (int i = 0; i < ruleCount; i++) {
             int sum = costOverWays(rules[i], giving);
-            if (sum < least) {
+            if (number == NONE || sum < least) {
                 least = sum;
                 number = i;
             }
@@ -490,8 +501,8 @@ public final class RoomsByThree {
             h = 31L * h + rules[i].kind;
             h = 31L * h + rules[i].n;
             if (rules[i].kind != BEST && isHoused()) {
-                h = 31L * h + dayCost(rules[i], 0, AS_THEY_COME);
-                h = 31L * h + dayCost(rules[i], 0, WISE);
+                h = 31L * h + dayCost(rules[i], AS_NUMBERED, 0, AS_THEY_COME);
+                h = 31L * h + dayCost(rules[i], AS_NUMBERED, 0, WISE);
             }
         }
         for (int i = 0; i < page.length; i++) {
@@ -566,38 +577,33 @@ public final class RoomsByThree {
 
     /** The women are those of the house again; what was best by others is so no longer. */
     private void hireAll() {
-        crew.hire(house);
+        crew.hireAll();
         orders.forget();
     }
 
-    private void planDay(Rule rule, int way) {
-        boolean ordered = rule.kind == BEST && house.roomCount <= MOST_ORDERED;
-        int[] order = ordered ? orders.leastBy(house, crew, desk, rule.n) : AS_NUMBERED;
-        crew.open(house, way);
-        crew.plan(rule, order);
-    }
-
-    private int dayCost(Rule rule, int way, int giving) {
-        planDay(rule, way);
-        return desk.give(house, crew.ready, giving);
+    private int dayCost(Rule rule, int[] order, int way, int giving) {
+        crew.plan(rule, order, way);
+        return desk.give(crew.ready, giving);
     }
 
     /** The mean of what all cost together, times the whole of all chances. */
     private int costOverWays(Rule rule, int giving) {
+        int[] order = orders.orderFor(rule.kind, rule.n);
         int sum = 0;
         for (int way = 0; way < house.wayCount(); way++) {
             int chance = house.chanceOf(way);
             if (chance > 0) {
-                sum += chance * dayCost(rule, way, giving);
+                sum += chance * dayCost(rule, order, way, giving);
             }
         }
         return sum;
     }
 
     private void waitByWays(Rule rule, int giving, int guest) {
+        int[] order = orders.orderFor(rule.kind, rule.n);
         for (int way = 0; way < house.wayCount(); way++) {
-            dayCost(rule, way, giving);
-            wayValue[way] = desk.waitOf(house, crew.ready, guest);
+            dayCost(rule, order, way, giving);
+            waitBy[way] = desk.waitOf(crew.ready, guest);
         }
     }
 
@@ -605,7 +611,7 @@ public final class RoomsByThree {
     private int chanceWithin(int quarters) {
         int sum = 0;
         for (int way = 0; way < house.wayCount(); way++) {
-            if (wayValue[way] <= quarters) {
+            if (waitBy[way] <= quarters) {
                 sum += house.chanceOf(way);
             }
         }
@@ -1004,16 +1010,20 @@ public final class RoomsByThree {
         final int[] freeAt = new int[MOST_WOMEN + 1];
         final int[] floorAt = new int[MOST_WOMEN + 1];
         private final boolean[] ended = new boolean[MOST_WOMEN + 1];
-        private House house;
+        private final House house;
         private final int[] gone = new int[MOST_ROOMS];
         final int[] by = new int[MOST_ROOMS];
         final int[] begun = new int[MOST_ROOMS];
         final int[] ready = new int[MOST_ROOMS];
 
-        void hire(House from) {
+        Crew(House house) {
+            this.house = house;
+        }
+
+        void hireAll() {
             size = 0;
-            for (int w = 0; w < from.womanCount; w++) {
-                hireLike(from.women[w]);
+            for (int w = 0; w < house.womanCount; w++) {
+                hireLike(house.women[w]);
             }
         }
 
@@ -1027,10 +1037,17 @@ public final class RoomsByThree {
             }
         }
 
-        void open(House of, int way) {
-            house = of;
-            for (int r = 0; r < of.roomCount; r++) {
-                gone[r] = of.goneBy(r, way);
+        /** The others keep their numbers. */
+        void sendAway(int w) {
+            if (isBelow(w, size)) {
+                here[w] = false;
+            }
+        }
+
+        /** A day by a way begins: no room is done yet. */
+        void open(int way) {
+            for (int r = 0; r < house.roomCount; r++) {
+                gone[r] = house.goneBy(r, way);
                 by[r] = NONE;
                 begun[r] = NONE;
                 ready[r] = NONE;
@@ -1042,7 +1059,9 @@ public final class RoomsByThree {
             }
         }
 
-        void plan(Rule rule, int[] order) {
+        /** Does a day by a way: an order of rooms is asked for by a LIST and a BEST alone. */
+        void plan(Rule rule, int[] order, int way) {
+            open(way);
             switch (rule.kind) {
                 case FLOORS:
                     planFloors();
@@ -1061,7 +1080,7 @@ public final class RoomsByThree {
         }
 
         private void planList(int[] order) {
-            for (int i = 0; i < house.roomCount; i++) {
+            for (int i = 0; i < house.roomCount && i < order.length; i++) {
                 int w = soonestFor(order[i]);
                 if (w != NONE) {
                     assign(w, order[i]);
@@ -1216,64 +1235,65 @@ public final class RoomsByThree {
 
     /** Gives the keys: of each guest the room that it is given, or NONE. */
     private static final class Desk {
-        final Keys keys = new Keys();
+        private final House house;
+        final Keys keys;
         final int[] roomOf = new int[MOST_GUESTS];
 
-        /** Gives rooms that are ready at these quarters: what all cost together. */
-        int give(House house, int[] ready, int giving) {
-            if (giving == WISE) {
-                giveWisely(house, ready);
-            } else {
-                giveAsTheyCome(house, ready);
-            }
-            int sum = 0;
-            for (int g = 0; g < house.guestCount; g++) {
-                sum += waitOf(house, ready, g) * house.guests[g][WEIGHT];
-            }
-            return sum;
+        Desk(House house) {
+            this.house = house;
+            this.keys = new Keys(house);
         }
 
-        int waitOf(House house, int[] ready, int g) {
+        /** Gives rooms that are ready at these quarters (NONE: never): what all cost together. */
+        int give(int[] ready, int giving) {
+            return giving == WISE ? giveWisely(ready) : giveAsTheyCome(ready);
+        }
+
+        int waitOf(int[] ready, int g) {
             int r = roomOf[g];
             int until = isBelow(r, house.roomCount) ? ready[r] : LAST_QUARTER;
             return Math.max(0, until - house.guests[g][COMES]);
         }
 
-        private void giveAsTheyCome(House house, int[] ready) {
+        int giveAsTheyCome(int[] ready) {
+            int sum = 0;
             int given = 0;
             for (int i = 0; i < house.guestCount; i++) {
                 int g = house.arrivals[i];
                 int may = house.fitting[g] & ~given;
                 int comes = house.guests[g][COMES];
-                int least = 0;
+                int wait = LAST_QUARTER - comes;
                 roomOf[g] = NONE;
                 for (int r = 0; r < house.roomCount; r++) {
                     if ((may >> r & 1) == 1 && ready[r] != NONE) {
-                        int wait = Math.max(0, ready[r] - comes);
-                        if (roomOf[g] == NONE || wait < least) {
+                        int waits = Math.max(0, ready[r] - comes);
+                        if (roomOf[g] == NONE || waits < wait) {
                             roomOf[g] = r;
-                            least = wait;
+                            wait = waits;
                         }
                     }
                 }
                 if (roomOf[g] != NONE) {
                     given |= 1 << roomOf[g];
                 }
+                sum += wait * house.guests[g][WEIGHT];
             }
+            return sum;
         }
 
-        private void giveWisely(House house, int[] ready) {
-            keys.begin(house);
+        private int giveWisely(int[] ready) {
+            keys.begin();
             for (int r = 0; r < house.roomCount; r++) {
                 if (ready[r] == NONE) {
                     keys.keep(r);
                 } else {
-                    keys.add(house, r, r, ready[r]);
+                    keys.add(r, r, ready[r]);
                 }
             }
             for (int g = 0; g < house.guestCount; g++) {
                 roomOf[g] = keys.roomFor(house.roomCount, g);
             }
+            return house.bareCost - keys.savedAt(house.roomCount);
         }
     }
 
@@ -1287,8 +1307,9 @@ public final class RoomsByThree {
     private static final class Keys {
         private static final long RANK_WHOLE = 43046721L;
         private static final long[] RANK_OF_GUEST = {4782969L, 531441L, 59049L, 6561L, 729L, 81L, 9L, 1L};
-        private static final long FAR = Long.MAX_VALUE;
+        private static final long FAR = 1000000000000000L;
 
+        private final House house;
         /** As many as guests, or rooms, if they are more: a place without a guest gains nothing. */
         private int places;
         private final long[][] gain = new long[MOST_ROOMS][MOST_ROOMS];
@@ -1299,7 +1320,11 @@ public final class RoomsByThree {
         private final int[] before = new int[MOST_ROOMS];
         private final boolean[] seen = new boolean[MOST_ROOMS];
 
-        void begin(House house) {
+        Keys(House house) {
+            this.house = house;
+        }
+
+        void begin() {
             places = Math.min(MOST_ROOMS, Math.max(house.guestCount, house.roomCount));
             for (int i = 0; i < places; i++) {
                 roomPrice[0][i] = 0L;
@@ -1318,12 +1343,12 @@ public final class RoomsByThree {
         }
 
         /** The next level is as this one with one room more. */
-        void add(House house, int level, int r, int ready) {
+        void add(int level, int r, int ready) {
             if (!isBelow(level, MOST_ROOMS) || !isBelow(r, MOST_ROOMS)) {
                 return;
             }
             keep(level);
-            weigh(house, r, ready);
+            weigh(r, ready);
             int end = cheapestEnd(level + 1, r);
             if (end != NONE) {
                 reprice(level + 1, r, end);
@@ -1331,7 +1356,7 @@ public final class RoomsByThree {
             }
         }
 
-        private void weigh(House house, int r, int ready) {
+        private void weigh(int r, int ready) {
             for (int g = 0; g < places; g++) {
                 gain[r][g] = 0L;
                 if (g < house.guestCount && (house.fitting[g] >> r & 1) == 1) {
@@ -1417,44 +1442,51 @@ public final class RoomsByThree {
 
     /** All orders of the rooms, as lists: what each costs by each way, and which is best. */
     private static final class Orders {
+        private final House house;
+        private final Crew crew;
+        private final Desk desk;
         /** By way, then by order: the orders are numbered by the first room, then the second, and so on. */
         private final int[][] costs = new int[MOST_WAYS][MOST_ORDERS];
+        private final int[] chances = new int[MOST_WAYS];
         private int orderCount;
+        private int giving;
+        /** By giving: the best order, while nothing changes of which it depends. */
         private final int[][] least = new int[2][MOST_ORDERED];
         private final boolean[] known = new boolean[2];
-        private House house;
-        private Crew crew;
-        private Desk desk;
-        private int giving;
 
-        /** What was best is so no longer: something has changed. */
-        void forget() {
-            known[0] = false;
-            known[1] = false;
+        Orders(House house, Crew crew, Desk desk) {
+            this.house = house;
+            this.crew = crew;
+            this.desk = desk;
         }
 
-        /** The order of a BEST by a giving. */
-        int[] leastBy(House of, Crew by, Desk from, int how) {
-            int[] order = least[how];
+        void forget() {
+            known[AS_THEY_COME] = false;
+            known[WISE] = false;
+        }
+
+        /** The order of rooms of a rule: of a BEST the best one, if the rooms are not too many. */
+        int[] orderFor(int kind, int how) {
+            if (kind != BEST || house.roomCount > MOST_ORDERED || !isGiving(how)) {
+                return AS_NUMBERED;
+            }
             if (!known[how]) {
-                weighAll(of, by, from, how);
-                spellOut(leastOf(of, 0, 0), order, of.roomCount);
+                weighAll(how);
+                spellOut(leastOf(0, 0), least[how], house.roomCount);
                 known[how] = true;
             }
-            return order;
+            return least[how];
         }
 
         /** Finds what each order costs by each way that has a chance. */
-        void weighAll(House of, Crew by, Desk from, int how) {
-            house = of;
-            crew = by;
-            desk = from;
+        void weighAll(int how) {
             giving = how;
-            for (int way = 0; way < of.wayCount(); way++) {
-                if (of.chanceOf(way) > 0) {
+            for (int way = 0; way < house.wayCount(); way++) {
+                chances[way] = house.chanceOf(way);
+                if (chances[way] > 0) {
                     orderCount = 0;
-                    by.open(of, way);
-                    from.keys.begin(of);
+                    crew.open(way);
+                    desk.keys.begin();
                     walk(0, 0, costs[way]);
                 }
             }
@@ -1463,7 +1495,11 @@ public final class RoomsByThree {
         /** Puts each room that is left behind those taken (by bits), and so on: depth is at most MOST_ORDERED. */
         private void walk(int depth, int taken, int[] found) {
             if (depth >= house.roomCount || depth >= MOST_ORDERED) {
-                note(depth, found);
+                if (orderCount < found.length) {
+                    found[orderCount] = giving == WISE
+                            ? house.bareCost - desk.keys.savedAt(depth) : desk.giveAsTheyCome(crew.ready);
+                    orderCount++;
+                }
                 return;
             }
             for (int r = 0; r < house.roomCount; r++) {
@@ -1479,7 +1515,7 @@ public final class RoomsByThree {
                     int floor = crew.floorAt[w];
                     crew.assign(w, r);
                     if (giving == WISE) {
-                        desk.keys.add(house, depth, r, crew.ready[r]);
+                        desk.keys.add(depth, r, crew.ready[r]);
                     }
                     walk(depth + 1, taken | 1 << r, found);
                     crew.takeBack(w, r, quarter, floor);
@@ -1487,20 +1523,12 @@ public final class RoomsByThree {
             }
         }
 
-        private void note(int depth, int[] found) {
-            if (orderCount < found.length) {
-                found[orderCount] = giving == WISE
-                        ? house.bareCost - desk.keys.savedAt(depth) : desk.give(house, crew.ready, giving);
-                orderCount++;
-            }
-        }
-
         /** The first order of least cost over the ways whose bits under the mask are as told. */
-        private int leastOf(House of, int mask, int bits) {
+        private int leastOf(int mask, int bits) {
             int first = 0;
-            int lowest = Integer.MAX_VALUE;
-            for (int i = 0; i < orderCount; i++) {
-                int sum = sumOf(of, mask, bits, i);
+            int lowest = sumOf(mask, bits, 0);
+            for (int i = 1; i < orderCount; i++) {
+                int sum = sumOf(mask, bits, i);
                 if (sum < lowest) {
                     lowest = sum;
                     first = i;
@@ -1509,26 +1537,22 @@ public final class RoomsByThree {
             return first;
         }
 
-        private int sumOf(House of, int mask, int bits, int i) {
+        private int sumOf(int mask, int bits, int order) {
             int sum = 0;
-            for (int way = 0; way < of.wayCount(); way++) {
-                int chance = (way & mask) == bits ? of.chanceOf(way) : 0;
-                if (chance > 0) {
-                    sum += chance * costs[way][i];
+            for (int way = 0; way < house.wayCount(); way++) {
+                if ((way & mask) == bits && chances[way] > 0) {
+                    sum += chances[way] * costs[way][order];
                 }
             }
             return sum;
         }
 
         /** What is saved, of the whole of all chances, by knowing a bit ahead. */
-        int worthOf(House of, int bit) {
-            if (bit == NONE) {
-                return 0;
-            }
+        int worthOf(int bit) {
             int mask = 1 << bit;
-            int unasked = sumOf(of, 0, 0, leastOf(of, 0, 0));
-            int first = sumOf(of, mask, 0, leastOf(of, mask, 0));
-            int later = sumOf(of, mask, mask, leastOf(of, mask, mask));
+            int unasked = sumOf(0, 0, leastOf(0, 0));
+            int first = sumOf(mask, 0, leastOf(mask, 0));
+            int later = sumOf(mask, mask, leastOf(mask, mask));
             return unasked - first - later;
         }
 

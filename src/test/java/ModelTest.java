@@ -101,26 +101,32 @@ public final class ModelTest {
         String drawHouse() {
             StringBuilder s = new StringBuilder();
             int rooms = below(8) == 0 ? 7 + below(2) : 1 + below(6);
+            rooms += below(60) == 0 ? 3 : 0;
+            int mostChances = below(40) == 0 ? 4 : 3;
             int chances = 0;
             for (int r = 0; r < rooms; r++) {
                 int gone = below(5) == 0 ? below(41) : below(20);
                 s.append(r > 0 ? "," : "").append(1 + below(6)).append("abcd".charAt(below(2 + below(3))));
                 s.append(1 + below(9)).append('g').append(gone);
-                if (chances < 3 && below(3) == 0) {
+                if (chances < mostChances && below(3) == 0) {
                     chances++;
                     s.append('/').append(1 + below(9)).append('g').append(gone + 1 + below(41 - gone));
                 }
             }
-            int women = 1 + below(3);
+            int women = below(40) == 0 ? 4 : 1 + below(3);
             for (int w = 0; w < women; w++) {
                 int from = below(3) == 0 ? below(41) : below(10);
                 int to = below(2) == 0 ? 44 : from + 1 + below(44 - from);
                 s.append(w > 0 ? "," : ";").append(1 + below(6)).append('f').append(from).append('t').append(to);
             }
-            int guests = 1 + below(8);
+            int guests = below(30) == 0 ? 9 : 1 + below(8);
+            // Guests who come late, or weigh the same, may be given rooms in many ways of like cost.
+            int earliest = below(4) == 0 ? 40 : 0;
+            int weights = below(3) == 0 ? 1 : 9;
             for (int g = 0; g < guests; g++) {
-                s.append(g > 0 ? "," : ";").append(below(6) == 0 ? 40 + below(5) : below(30));
-                s.append("abcdxx".charAt(below(6))).append(below(4) == 0 ? "h" : "").append(1 + below(9));
+                s.append(g > 0 ? "," : ";");
+                s.append(below(6) == 0 ? 40 + below(5) : earliest + below(earliest > 0 ? 5 : 30));
+                s.append("abcdxx".charAt(below(6))).append(below(4) == 0 ? "h" : "").append(1 + below(weights));
             }
             return s.toString();
         }

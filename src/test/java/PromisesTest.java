@@ -145,6 +145,9 @@ public final class PromisesTest {
             {"1a1g0;1f0t1;0a1,0a1,0a1,0a1,0a1,0a1,0a1,0a1,", 43}};
         for (Object[] row : faults) {
             due("fault of '" + row[0] + "'", fault((String) row[0], 0), (Integer) row[1]);
+            RoomsByThree x = new RoomsByThree();
+            put(x, (String) row[0]);
+            due("house() of '" + row[0] + "'", x.house(), STATE);
         }
         Object[][] toldFaults = {{"", 0}, {"0", 1}, {"01234567", 8}, {";;", 2}, {";;;", 2}, {"7;0;12", 6}, {"8", 0},
             {"0;0", 2}, {"00", 1}, {"1,2", 1}, {"1;2;3;", 5}, {"a", 0}};
@@ -433,6 +436,14 @@ public final class PromisesTest {
         due("of like ones guest 0 the least", late.given(0, 0, 1, 0, 0), 0);
         due("and not none", late.given(0, 0, 1, 1, 0), 1);
         due("it costs nothing", late.cost(0, 0, 1), 0);
+        wisely("1a1g0,1a1g0,1a1g0;1f0t44;44a1,44a1,44a1", 0, 1, 2);
+        wisely("1a1g0,1b1g0,1a1g0;1f0t44;44x1,44x1,44a1", 0, 1, 2);
+        wisely("1a1g0,1b1g0,1c1g0;1f0t44;44x1,44x1,44b1,44a1", 0, 1, NONE, NONE);
+        wisely("1b1g0,1a1g0,1a1g0;1f0t44;44a1,44x1,44b1,44x9", 1, 0, NONE, 2);
+        wisely("1a1g0,1b1g0;1f0t44;20x3,20a3,20b3", 0, NONE, 1);
+        wisely("1a1g0,1b1g0;1f0t44;20x3,20x3,20a4", 1, NONE, 0);
+        wisely("1a1g0,1a1g0,1a1g0,1a1g0;1f0t44;0a2,0a2,0a2,0a2", 0, 1, 2, 3);
+        wisely("1a1g0,1a1g0,1a1g0,1a1g0;1f0t44;0a1,0a2,0a3,0a4", 3, 2, 1, 0);
 
         RoomsByThree high = with("3a1g0,4b1g0;1f0t44;0xh1,0ah1,0b1", 0);
         due("high is 4 at least", high.given(0, 0, 0, 0, 0), 1);
@@ -442,6 +453,14 @@ public final class PromisesTest {
         due("what will not be ready is not given", undone.given(0, 0, 0, 0, 0), NONE);
         due("nor wisely", undone.given(0, 0, 1, 0, 0), NONE);
         due("it costs all", undone.cost(0, 0, 1), 44);
+    }
+
+    /** The rooms that are given wisely by a LIST, guest by guest. */
+    static void wisely(String house, int... rooms) {
+        RoomsByThree x = with(house, 0);
+        for (int g = 0; g < rooms.length; g++) {
+            due("'" + house + "' wisely, guest " + g, x.given(0, 0, 1, g, 0), rooms[g]);
+        }
     }
 
     static void chances() {

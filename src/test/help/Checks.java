@@ -10,7 +10,15 @@ final class Checks {
     /** Objects are used for so many calls; what later calls answer is free. */
     static final int MOST_CALLS = 512;
 
+    /** Houses of which nothing may be left in the next one: the most of all, and one whose BEST is found. */
+    private static final String CROWDED = "6a1g0/1g41,5b9g3/5g9,4c8g1/9g2,3d7g0,2a6g5,1b5g6,4d4g7,6c3g8;"
+            + "6f1t44,1f2t40,3f0t30;0x9,1xh8,2a7,3b6,4c5,5d4,6xh3,7x2";
+    private static final String BUSY = "6d1g0/1g41,5c9g3/5g9,4b8g1/9g2,3a7g0,2d6g5,1c5g6;"
+            + "1f0t44,2f0t44,4f9t40;0x9,1xh8,2d7,3c6,4b5,5a4,6xh3,7x2";
+
     private static final String DOCUMENT = readDocument();
+    /** Whether with() gives objects that had other houses. */
+    private static boolean worn = false;
     private static String words = "";
     private static int sentences = 0;
     private static int checks = 0;
@@ -91,16 +99,40 @@ final class Checks {
         return put(new RoomsByThree(), text);
     }
 
-    /** A new object with this house, and a rule of each of these kinds. */
+    /** From now on with() reads its house behind two others: what is told of it is the same. */
+    static void wear() {
+        worn = true;
+    }
+
+    /** An object with this house, and a rule of each of these kinds. */
     static RoomsByThree with(String house, int... kinds) {
-        RoomsByThree x = page(house);
-        if (x.house() < 1) {
-            fail("'" + house + "' is no house: " + x.fault(0));
-        }
+        RoomsByThree x = new RoomsByThree();
         for (int kind : kinds) {
             x.rule(kind, 0);
         }
+        if (worn) {
+            live(x, CROWDED);
+            live(x, BUSY);
+        }
+        put(x, house);
+        if (x.house() < 1) {
+            fail("'" + house + "' is no house: " + x.fault(0));
+        }
         return x;
+    }
+
+    private static void live(RoomsByThree x, String house) {
+        put(x, house);
+        x.house();
+        for (int r = 0; r < 8; r++) {
+            x.late(r, 5 * r);
+        }
+        x.image();
+        x.late(1, NONE);
+        for (int rule = 0; rule < x.count(3); rule++) {
+            x.mean(rule, 0, 0);
+            x.mean(rule, 1, 0);
+        }
     }
 
     static int told(RoomsByThree x, String text) {

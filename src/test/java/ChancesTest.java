@@ -18,12 +18,21 @@ public final class ChancesTest {
     static final String EIGHT = Checks.times(8, "1a1g0", ",") + ";1f0t44;0a1";
 
     public static void main(String[] args) {
+        all();
+        Checks.wear();
+        all();
+        Checks.end();
+    }
+
+    static void all() {
         fresh();
         mean();
         worst();
         sure();
         tells();
         best();
+        bestByChance();
+        bestAnew();
         bestOfMany();
         call();
         called();
@@ -36,7 +45,6 @@ public final class ChancesTest {
         counts();
         digest();
         lastCall();
-        Checks.end();
     }
 
     static void says(String words) {
@@ -241,6 +249,16 @@ public final class ChancesTest {
         order(with("1a1g0,1b1g0,1c1g0;1f0t44;0b9,0c9"), 0, 1, 2, 0);
         order(with("1a9g0,1a8g0,1a7g0,1a6g0,1a5g0,1a4g0;1f0t44;" + Checks.times(6, "0a1", ",")), 0, 5, 4, 3, 2, 1, 0);
         order(with("1a9g0,1a8g0,1a7g0,1a6g0,1a5g0,1a4g0;1f0t44;" + Checks.times(6, "0a1", ",")), 1, 5, 4, 3, 2, 1, 0);
+        for (int giving = 0; giving < 2; giving++) {
+            // Rooms on other floors, and some that she does not do any more by one order or by all.
+            order(with("1a1g1,5a1g0;5f0t5;0x8"), giving, 1, 0);
+            order(with("1a1g0,5b2g0;1f2t8;0b2"), giving, 1, 0);
+            order(with("1a1g0,1a4g0;5f0t6;0a8,0a5"), giving, 0, 1);
+            order(with("1a1g0,5b5g4;5f2t9;0b6"), giving, 1, 0);
+            order(with("1a1g2,1b4g0;5f1t7;0b2"), giving, 1, 0);
+            order(with("1a2g5,1b4g0;1f0t6;0b9"), giving, 0, 1);
+            order(with("1a9g0,1a9g0,1a9g0;1f0t8;0a9"), giving, 0, 1, 2);
+        }
         // As they come the light guest takes what is ready first; wisely the heavy one does.
         RoomsByThree two = with("1b5g0,1a3g0;1f0t44;0x1,1a9,1b1");
         order(two, 0, 0, 1);
@@ -264,6 +282,69 @@ public final class ChancesTest {
         due("i -1", one.best(0, -1), OUTSIDE);
         due("giving 2", one.best(2, 0), OUTSIDE);
         due("giving -1", one.best(-1, 0), OUTSIDE);
+    }
+
+    static void bestByChance() {
+        says("A BEST (by a GIVING): with 6 ROOMS at most of all orders of them that by which, as a LIST in this order, MEAN "
+                + "by that GIVING is least");
+        int[][] doubts = {{1, 433, 2, 1}, {5, 155, 1, 0}, {9, 75, 1, 0}};
+        for (int[] row : doubts) {
+            RoomsByThree x = with("1a5g0/" + row[0] + "g20,1b5g0;1f0t44;0a9,0b1", BEST);
+            x.rule(BEST, 1);
+            for (int giving = 0; giving < 2; giving++) {
+                meanIs(x, giving, giving, row[1], row[2]);
+                due("by " + row[0] + " tenths the first", x.best(giving, 0), row[3]);
+                for (int way = 0; way < 2; way++) {
+                    due("one order for all ways", x.done(giving, way, 1, 2), row[3] == 1 ? 5 : way == 0 ? 10 : 30);
+                }
+            }
+        }
+    }
+
+    /** When a room is ready by a BEST of each giving. */
+    static void readyByBest(String when, RoomsByThree x, int room, int quarter) {
+        due("a BEST by 0, " + when, x.done(0, 0, room, 2), quarter);
+        due("a BEST by 1, " + when, x.done(1, 0, room, 2), quarter);
+    }
+
+    static void bestAnew() {
+        says("by which, as a LIST in this order, MEAN by that GIVING is least");
+        RoomsByThree x = with("1a9g0,1b1g0;1f0t44;0a1,0b9", BEST);
+        x.rule(BEST, 1);
+        readyByBest("at first", x, 0, 10);
+        x.image();
+        x.late(1, 20);
+        readyByBest("one is late", x, 0, 9);
+        x.late(1, NONE);
+        readyByBest("it is not", x, 0, 10);
+        x.late(1, 20);
+        readyByBest("it is late again", x, 0, 9);
+        x.restore();
+        readyByBest("behind restore()", x, 0, 10);
+        Checks.put(x, "1a1g0,1b9g0;1f0t44;0a9,0b1");
+        readyByBest("another house is on the page alone", x, 0, 10);
+        x.house();
+        readyByBest("another house is read", x, 0, 1);
+        Checks.put(x, "6a1g0,1b3g0;1f0t44;0a9,0b5");
+        x.house();
+        readyByBest("the lift goes 2", x, 1, 3);
+        x.lift(6);
+        readyByBest("the lift goes 6", x, 1, 6);
+        x.lift(1);
+        readyByBest("the lift goes 1", x, 1, 3);
+        x.lift(6);
+        x.image();
+        x.lift(1);
+        readyByBest("the lift goes 1", x, 1, 3);
+        x.restore();
+        readyByBest("the lift is restored", x, 1, 6);
+        x.late(0, 45);
+        x.lift(7);
+        x.missed(0, 0);
+        x.more(1, 1, 0);
+        x.called(0);
+        x.which(1);
+        readyByBest("behind other calls", x, 1, 6);
     }
 
     static void bestOfMany() {
@@ -303,6 +384,11 @@ public final class ChancesTest {
         terms("the room, not the bit", third.call(0, 1, 0), third.call(0, 1, 1), 25, 2);
         due("not by chance", third.call(0, 0, 0), UNKNOWN);
         due("not by chance", third.call(0, 2, 0), UNKNOWN);
+        RoomsByThree both = with("5b2g0/5g7,1b1g0/5g6;5f2t9;4x9,0x7", BEST);
+        meanIs(both, 0, 0, 239, 1);
+        terms("of the first of two", both.call(0, 0, 0), both.call(0, 0, 1), 357, 4);
+        terms("of the second of two", both.call(0, 1, 0), both.call(0, 1, 1), 159, 2);
+        due("the first is called", both.called(0), 0);
         RoomsByThree six = with("1a5g0/5g20,1b5g0,1c1g0,1c1g0,1c1g0,1c1g0;1f0t44;0a9,0b1");
         terms("of six rooms", six.call(1, 0, 0), six.call(1, 0, 1), 25, 2);
         RoomsByThree seven = with("1a5g0/5g20,1b5g0,1c1g0,1c1g0,1c1g0,1c1g0,1c1g0;1f0t44;0a9,0b1");
@@ -335,6 +421,8 @@ public final class ChancesTest {
         RoomsByThree most = with("1c1g0/5g1,1b5g0,1a5g0/5g20;1f0t44;0a9,0b1");
         due("the one of most", most.called(0), 2);
         due("the one of most", most.called(1), 2);
+        due("the first one has more", with("5b2g0/5g7,1b1g0/5g6;5f2t9;4x9,0x7").called(0), 0);
+        due("whichever stands first", with("1b1g0/5g6,5b2g0/5g7;5f2t9;4x9,0x7").called(0), 1);
 
         says("CALLED; NONE: no ROOM is BY CHANCE.");
         like.late(3, 7);
@@ -377,6 +465,10 @@ public final class ChancesTest {
         RoomsByThree less = with("4a2g0,4b1g4;2f1t9,2f0t9;0a2,0b5", FREE);
         due("both cost 36", less.cost(0, 0, 0), 36);
         due("most more: 33 - 36 is more than 31 - 36", less.missed(0, 0), 1);
+        RoomsByThree best = with("1a2g4,5b3g1;1f1t8,5f0t8;0b5", BEST);
+        due("both cost 20", best.cost(0, 0, 0), 20);
+        due("the best without each, 20 and 30", best.missed(0, 0), 1);
+        due("both are there again", best.cost(0, 0, 0), 20);
     }
 
     static void moreIs(RoomsByThree x, int rule, int giving, long above, long below) {
@@ -403,6 +495,11 @@ public final class ChancesTest {
             Checks.told(x, "0;1;2");
             due("told of her, behind " + women, x.more(0, 1, 0), women < 3 ? 43 : 0);
         }
+
+        RoomsByThree best = with("1a1g0,1b2g0,1b4g3;5f2t8;0b5,0b3", BEST);
+        due("the best of one alone", best.cost(0, 0, 0), 162);
+        moreIs(best, 0, 0, 162 - 54, 1);
+        due("of one alone again", best.cost(0, 0, 0), 162);
 
         says("MORE, in lowest terms (above it may be below 0).");
         RoomsByThree less = with("3a2g0,3b2g3;6f0t10;0a8,0b7", FREE);

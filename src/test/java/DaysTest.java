@@ -7,6 +7,13 @@ public final class DaysTest {
         {4, 2, 2, 1, 1, 1}, {5, 3, 2, 2, 1, 1}};
 
     public static void main(String[] args) {
+        all();
+        Checks.wear();
+        all();
+        Checks.end();
+    }
+
+    static void all() {
         numbers();
         ways();
         late();
@@ -25,7 +32,7 @@ public final class DaysTest {
         waits();
         asTheyCome();
         wise();
-        Checks.end();
+        wiseOfMany();
     }
 
     static void says(String words) {
@@ -531,5 +538,33 @@ public final class DaysTest {
         keys(Checks.times(8, "1a1g0", ",") + ";1f0t44;44a1", 1, 0);
         keys(Checks.times(8, "1a1g0", ",") + ";1f0t44;7a1", 1, 0);
         keys(Checks.times(7, "1b1g0", ",") + ",1a1g0;1f0t44;0a1,0x1", 1, 7, 0);
+    }
+
+    static void wiseOfMany() {
+        says("GUEST 0 is given the least ROOM (none behind all), then GUEST 1, and so on.");
+        for (int comes = 40; comes <= 44; comes++) {
+            keys(Checks.times(8, "1a1g0", ",") + ";1f0t44;" + Checks.times(8, comes + "a9", ","), 1,
+                    0, 1, 2, 3, 4, 5, 6, 7);
+        }
+        for (int first = 0; first < 7; first++) {
+            for (int next = first + 1; next < 8; next++) {
+                StringBuilder guests = new StringBuilder();
+                int[] rooms = new int[8];
+                for (int g = 0; g < 8; g++) {
+                    guests.append(g == 0 ? "" : ",").append(g == first ? "44x1" : g == next ? "44a1" : "44c1");
+                    rooms[g] = g == first ? 0 : NONE;
+                }
+                keys("1a1g0,1b1g0;1f0t44;" + guests, 1, rooms);
+                rooms[next] = 0;
+                rooms[first] = 1;
+                keys("1a1g0,1b1g0;1f0t44;" + guests.toString().replace("44a1", "43a1"), 1, rooms);
+                rooms[first] = 0;
+                rooms[next] = 1;
+                keys("1a1g0,1b1g0;1f0t44;" + guests.toString().replace("44a1", "43b1"), 1, rooms);
+            }
+        }
+        keys("1a1g0,1b1g0,1c1g0;1f0t44;44x1,44a1,44b1,44c1", 1, 0, NONE, 1, 2);
+        keys("1a1g0,1b1g0,1c1g0;1f0t44;44x1,44x1,44a1,44b1", 1, 0, 1, NONE, NONE);
+        keys("1c1g0,1b1g0,1a1g0;1f0t44;44a1,44x1,44x1,44c1", 1, 2, 0, 1, NONE);
     }
 }

@@ -11,6 +11,7 @@ public final class TextsTest {
         letters();
         fullPage();
         blank();
+        oldLetters();
         faultOfRooms();
         faultOfLaterQuarters();
         faultOfWomen();
@@ -127,6 +128,39 @@ public final class TextsTest {
         due("the house stays", x.count(0), 1);
         due("what is late stays", x.room(0, 6), 3);
         due("rules stay", x.count(3), 1);
+    }
+
+    /** What stood behind the end of a page once is nothing of it. */
+    static void oldLetters() {
+        says("THE PAGE is empty: how many letters it had.");
+        String house = "1a1g1/1g41,6d9g40;1f1t44,2f3t4;44xh1,0a9";
+        for (int cut = 0; cut < house.length(); cut++) {
+            RoomsByThree x = Checks.page(house);
+            x.blank();
+            Checks.put(x, house.substring(0, cut));
+            due("cut at " + cut + ": fault(0)", x.fault(0), cut);
+            boolean whole = cut == house.length() - 4;
+            due("cut at " + cut + ": house()", x.house(), whole ? 2 : STATE);
+            RoomsByThree y = Checks.page(house);
+            y.house();
+            Checks.put(y, house.substring(0, cut));
+            due("read, then cut at " + cut + ": fault(0)", y.fault(0), cut);
+            due("read, then cut at " + cut + ": house()", y.house(), whole ? 2 : STATE);
+        }
+        String told = "012;34;567";
+        for (int cut = 1; cut < told.length(); cut++) {
+            RoomsByThree x = Checks.page(told);
+            x.tell();
+            Checks.put(x, told.substring(0, cut));
+            due("told, then cut at " + cut + ": fault(1)", x.fault(1), cut);
+            due("told, then cut at " + cut + ": tell()", x.tell(), 1);
+        }
+        RoomsByThree full = pageOf(160);
+        due("fault(0) of 160 letters", full.fault(0), 0);
+        due("blank()", full.blank(), 160);
+        due("fault(0) of none", full.fault(0), 0);
+        due("house() of none", full.house(), STATE);
+        due("tell() of none", full.tell(), STATE);
     }
 
     // ---- what may stand where

@@ -14,7 +14,9 @@ public final class DaysTest {
     }
 
     static void all() {
+        quarters();
         numbers();
+        facts();
         ways();
         late();
         lift();
@@ -69,6 +71,23 @@ public final class DaysTest {
 
     // ---- 1
 
+    static void quarters() {
+        says("Time is told in QUARTERS 0 to 44.");
+        RoomsByThree x = allKinds("1a1g0;1f0t44;0a1,44b1");
+        for (int quarter = -3; quarter <= 47; quarter++) {
+            boolean fine = quarter >= 0 && quarter <= 44;
+            int was = x.room(0, 6);
+            due("late(0, " + quarter + ")", x.late(0, quarter), fine || quarter == NONE ? was : OUTSIDE);
+            if (fine) {
+                due("gone(0, 0)", x.gone(0, 0), quarter);
+                due("ready by the last quarter", x.done(LIST, 0, 0, 2), quarter < 44 ? quarter + 1 : NONE);
+                due("it waits until then", x.given(LIST, 0, 0, 0, 1), quarter < 44 ? quarter + 1 : 44);
+            }
+            boolean sure = x.sure(LIST, 0, 1, quarter, 0) == 1;
+            due("sure of 0 and more for " + quarter, sure ? 1 : 0, fine ? 1 : 0);
+        }
+    }
+
     static void numbers() {
         says("All are numbered from 0.");
         RoomsByThree x = with("2a1g3,3b1g4;4f5t9,5f6t10;7c1,8d1");
@@ -95,6 +114,55 @@ public final class DaysTest {
         due("woman 3", most.woman(3, 0), UNKNOWN);
         due("guest 7", most.guest(7, 3), 1);
         due("guest 8", most.guest(8, 3), UNKNOWN);
+    }
+
+    static void facts() {
+        RoomsByThree none = new RoomsByThree();
+        none.rule(LIST, 0);
+        RoomsByThree x = with("1a1g0,6d9g40/9g41,3c5g7/1g8,4b2g9;1f0t1,6f40t44;0a1,44xh9,7dh5,8x2,9b3,3ch4");
+        x.late(2, 0);
+        x.late(3, 44);
+
+        says("what = 0 FLOOR, 1 SORT (0 to 3), 2 WORK, 3 GONE (the first QUARTER), 4 the later one (NONE), 5 TENTHS (NONE), "
+                + "6 at which it is LATE (NONE). UNKNOWN; OUTSIDE.");
+        int[][] rooms = {{1, 0, 1, 0, NONE, NONE, NONE}, {6, 3, 9, 40, 41, 9, NONE}, {3, 2, 5, 7, 8, 1, 0},
+            {4, 1, 2, 9, NONE, NONE, 44}};
+        for (int i = -1; i <= 4; i++) {
+            for (int what = -1; what <= 7; what++) {
+                boolean named = i >= 0 && i < 4;
+                int told = what < 0 || what > 6 ? OUTSIDE : named ? rooms[i][what] : 0;
+                due("room(" + i + ", " + what + ")", x.room(i, what), named ? told : UNKNOWN);
+            }
+        }
+
+        says("Of a WOMAN: what = 0 FLOOR, 1 FROM, 2 TO. UNKNOWN; OUTSIDE.");
+        int[][] women = {{1, 0, 1}, {6, 40, 44}};
+        for (int i = -1; i <= 2; i++) {
+            for (int what = -1; what <= 3; what++) {
+                boolean named = i >= 0 && i < 2;
+                int told = what < 0 || what > 2 ? OUTSIDE : named ? women[i][what] : 0;
+                due("woman(" + i + ", " + what + ")", x.woman(i, what), named ? told : UNKNOWN);
+            }
+        }
+
+        says("Of a GUEST: what = 0 COMES, 1 SORT (NONE: any), 2 whether HIGH (1, 0), 3 WEIGHT. UNKNOWN; OUTSIDE.");
+        int[][] guests = {{0, 0, 0, 1}, {44, NONE, 1, 9}, {7, 3, 1, 5}, {8, NONE, 0, 2}, {9, 1, 0, 3}, {3, 2, 1, 4}};
+        for (int i = -1; i <= 6; i++) {
+            for (int what = -1; what <= 4; what++) {
+                boolean named = i >= 0 && i < 6;
+                int told = what < 0 || what > 3 ? OUTSIDE : named ? guests[i][what] : 0;
+                due("guest(" + i + ", " + what + ")", x.guest(i, what), named ? told : UNKNOWN);
+            }
+        }
+
+        says("what is told (UNKNOWN also without a HOUSE).");
+        for (int what : new int[] {0, 9, -1}) {
+            due("room(0, " + what + ")", none.room(0, what), UNKNOWN);
+            due("woman(0, " + what + ")", none.woman(0, what), UNKNOWN);
+            due("guest(0, " + what + ")", none.guest(0, what), UNKNOWN);
+            due("late(0, " + what + ")", none.late(0, what), UNKNOWN);
+        }
+        due("THE LIFT needs none", none.lift(3), 2);
     }
 
     static void ways() {

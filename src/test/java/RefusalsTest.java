@@ -336,6 +336,7 @@ public final class RefusalsTest {
     }
 
     public static void main(String[] args) {
+        pages();
         texts();
         facts();
         days();
@@ -343,6 +344,40 @@ public final class RefusalsTest {
         six();
         all();
         Checks.end();
+    }
+
+    /** The calls that take or read letters, with pages that they refuse. */
+    static void pages() {
+        Checks.says("Refusals, of several the first as told by each call: UNKNOWN (a number names nothing), OUTSIDE (it is not "
+                + "as told), STATE (as told), FULL; they change nothing.");
+        String full = Checks.times(160, "0", "");
+        for (World world : World.values()) {
+            for (String text : new String[] {"", "0;0", "8", "1a1g0;1f0t1;", full}) {
+                String told = " of " + world + " with '" + text + "'";
+                RoomsByThree x = paged(world, text);
+                Checks.due("house()" + told, x.house(), STATE);
+                Checks.due("tell()" + told, x.tell(), STATE);
+                Checks.due("letters(127)" + told, x.letters(127), OUTSIDE);
+                Checks.due("letters behind a 0" + told, x.letters(1L << 56 | 1), OUTSIDE);
+                if (text.length() == 160) {
+                    Checks.due("letters(1)" + told, x.letters(1), FULL);
+                }
+                Checks.due("what these changed" + told,
+                        portrait(x, world).equals(portrait(paged(world, text), world)) ? 0 : 1, 0);
+            }
+            if (world.rules == 8) {
+                RoomsByThree x = paged(world, "10;2");
+                Checks.due("tell() of a ninth, " + world, x.tell(), FULL);
+                Checks.due("what it changed of " + world,
+                        portrait(x, world).equals(portrait(paged(world, "10;2"), world)) ? 0 : 1, 0);
+            }
+        }
+    }
+
+    static RoomsByThree paged(World world, String text) {
+        RoomsByThree x = world.build();
+        x.blank();
+        return Checks.put(x, text);
     }
 
     static void texts() {

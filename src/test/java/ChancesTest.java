@@ -25,6 +25,7 @@ public final class ChancesTest {
     }
 
     static void all() {
+        constants();
         fresh();
         mean();
         worst();
@@ -57,6 +58,15 @@ public final class ChancesTest {
 
     static RoomsByThree with(String house, int... kinds) {
         return Checks.with(house, kinds);
+    }
+
+    static void constants() {
+        says("public static final int NONE = -1, UNKNOWN = -101, OUTSIDE = -102, STATE = -103, FULL = -104;");
+        due("NONE", RoomsByThree.NONE, -1);
+        due("UNKNOWN", RoomsByThree.UNKNOWN, -101);
+        due("OUTSIDE", RoomsByThree.OUTSIDE, -102);
+        due("STATE", RoomsByThree.STATE, -103);
+        due("FULL", RoomsByThree.FULL, -104);
     }
 
     static void fresh() {

@@ -344,6 +344,15 @@ public final class DaysTest {
             due("the eighth", x.as(7, BEST), 7);
             due("behind all", x.as(8, LIST), UNKNOWN);
         }
+        says("A RULE taken as a KIND: its own number (not that of the KIND); NONE: it is none such (the cast fails).");
+        RoomsByThree alike = new RoomsByThree();
+        for (int i = 0; i < 8; i++) {
+            alike.rule(PAID, 0);
+            due("of eight alike, as itself", alike.as(i, PAID), i);
+            due("of eight alike, as a FREE", alike.as(i, FREE), i);
+            due("of eight alike, as a LIST", alike.as(i, LIST), i);
+            due("of eight alike, as another", alike.as(i, PROMISE), NONE);
+        }
         says("A RULE that is not TOLD: its number. OUTSIDE: kind (0 to 5), n (of a BEST its GIVING, 0 else); FULL.");
         for (int kind = -1; kind <= 7; kind++) {
             for (int n = -1; n <= 2; n++) {
@@ -552,6 +561,20 @@ public final class DaysTest {
         due("it is given it", last.given(0, 0, 0, 0, 0), 0);
         due("without one", last.given(0, 0, 0, 1, 2), 9);
         due("who comes at 44", last.given(0, 0, 0, 2, 2), 0);
+
+        says("COST of all together.");
+        for (int giving = 0; giving < 2; giving++) {
+            RoomsByThree each = allKinds("1a2g0/5g9,4b1g3,6a3g1/5g7;1f0t20,5f2t44;0a9,3xh2,5b3,6a1,44c9,2d4");
+            for (int kind = 0; kind < 7; kind++) {
+                for (int way = 0; way < 4; way++) {
+                    int sum = 0;
+                    for (int g = 0; g < 6; g++) {
+                        sum += each.given(kind, way, giving, g, 2);
+                    }
+                    due("kind " + kind + " by way " + way + " and giving " + giving, each.cost(kind, way, giving), sum);
+                }
+            }
+        }
         RoomsByThree most = with("1d1g0;1f0t44;" + Checks.times(8, "0a9", ","), LIST);
         due("the most that all can cost", most.cost(0, 0, 0), 8 * 44 * 9);
         due("wisely", most.cost(0, 0, 1), 8 * 44 * 9);

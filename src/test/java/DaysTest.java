@@ -1,3 +1,5 @@
+import java.util.Random;
+
 /** The sentences about one day: THE LIFT, who does which room when by each kind of rule, and which key is given. */
 public final class DaysTest {
     static final int NONE = Checks.NONE, UNKNOWN = Checks.UNKNOWN, OUTSIDE = Checks.OUTSIDE;
@@ -30,11 +32,13 @@ public final class DaysTest {
         paid();
         promise();
         told();
+        toldNothing();
         fits();
         waits();
         asTheyCome();
         wise();
         wiseOfMany();
+        wiseOfLikeCost();
     }
 
     static void says(String words) {
@@ -520,6 +524,23 @@ public final class DaysTest {
         begun(ahead, 0, 0, 3);
     }
 
+    static void toldNothing() {
+        says("for each WOMAN (1 to 3) with \";\" between digits 0 to 7 (perhaps none; each at most once in all)");
+        for (String text : new String[] {";", ";;"}) {
+            RoomsByThree x = with("1a1g0,1a1g0;1f0t44,1f0t44,1f0t44;0a1");
+            due("the first is of no room", Checks.told(x, text), 0);
+            due("one of rooms", Checks.told(x, "0;1"), 1);
+            due("of no room behind it", Checks.told(x, text), 2);
+            due("of one room behind it", Checks.told(x, ";1"), 3);
+            begun(x, 0, 0, NONE, NONE);
+            begun(x, 1, 0, 0, 0);
+            begun(x, 2, 0, NONE, NONE);
+            begun(x, 3, 0, NONE, 0);
+            by(x, 3, 0, NONE, 1);
+            due("none is given", x.given(0, 0, 0, 0, 0), NONE);
+        }
+    }
+
     // ---- 3
 
     static void fits() {
@@ -657,5 +678,36 @@ public final class DaysTest {
         keys("1a1g0,1b1g0,1c1g0;1f0t44;44x1,44a1,44b1,44c1", 1, 0, NONE, 1, 2);
         keys("1a1g0,1b1g0,1c1g0;1f0t44;44x1,44x1,44a1,44b1", 1, 0, 1, NONE, NONE);
         keys("1c1g0,1b1g0,1a1g0;1f0t44;44a1,44x1,44x1,44c1", 1, 2, 0, 1, NONE);
+    }
+
+    /** Who comes at 44 costs nothing: then each is given the least room that fits and is left, in the guests' order. */
+    static void wiseOfLikeCost() {
+        says("GUEST 0 is given the least ROOM (none behind all), then GUEST 1, and so on.");
+        Random draws = new Random(7);
+        for (int i = 0; i < 300; i++) {
+            int[] floor = new int[8];
+            int[] sort = new int[8];
+            StringBuilder house = new StringBuilder();
+            for (int r = 0; r < 8; r++) {
+                floor[r] = 3 + draws.nextInt(2);
+                sort[r] = draws.nextInt(3);
+                house.append(r == 0 ? "" : ",").append(floor[r]).append("abcd".charAt(sort[r])).append("1g0");
+            }
+            house.append(";3f0t44;");
+            int[] rooms = new int[8];
+            int taken = 0;
+            for (int g = 0; g < 8; g++) {
+                int wish = draws.nextInt(5);
+                boolean high = draws.nextInt(3) == 0;
+                house.append(g == 0 ? "" : ",").append("44").append("abcdx".charAt(wish)).append(high ? "h9" : "1");
+                rooms[g] = NONE;
+                for (int r = 7; r >= 0; r--) {
+                    boolean fits = (wish == 4 || wish == sort[r]) && (!high || floor[r] >= 4);
+                    rooms[g] = fits && (taken >> r & 1) == 0 ? r : rooms[g];
+                }
+                taken |= rooms[g] == NONE ? 0 : 1 << rooms[g];
+            }
+            keys(house.toString(), 1, rooms);
+        }
     }
 }

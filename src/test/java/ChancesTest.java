@@ -268,6 +268,9 @@ public final class ChancesTest {
             order(with("1a1g2,1b4g0;5f1t7;0b2"), giving, 1, 0);
             order(with("1a2g5,1b4g0;1f0t6;0b9"), giving, 0, 1);
             order(with("1a9g0,1a9g0,1a9g0;1f0t8;0a9"), giving, 0, 1, 2);
+            // One room alone is done, wherever it stands, the last place, too: all orders are alike.
+            order(with("1a9g0,1a9g0,1a9g0,1a9g0,1a9g0,1b1g0;1f0t1;0b1"), giving, 0, 1, 2, 3, 4, 5);
+            order(with("1a9g0,1b1g0;1f0t1;0b1"), giving, 0, 1);
         }
         // As they come the light guest takes what is ready first; wisely the heavy one does.
         RoomsByThree two = with("1b5g0,1a3g0;1f0t44;0x1,1a9,1b1");
